@@ -734,9 +734,9 @@ public final class BoundCourt {
       }
     }
 
-    /** False: 0 is out of the column's bounds. */
+    /** False: 0 is below the least value. (If above the greatest, that line is found broken.) */
     boolean holdAtNothing(int c) {
-      if (leasts[c] > 0 || (greatests[c] != NONE && greatests[c] < 0)) {
+      if (leasts[c] > 0) {
         return false;
       }
       raise(c, 0);

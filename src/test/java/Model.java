@@ -21,6 +21,14 @@ final class Model {
     int mostColumns = 5, mostRows = 7, factor = 9, wholeSpan = 9, justIn = 6, restIn = 8;
     int[] kinds = {0, 1, 2};
     boolean nearby = true;
+    boolean extreme = false;
+
+    int factor(Random random) {
+      if (extreme) {
+        return random.nextBoolean() ? between(random, 8, 9) : between(random, -9, -8);
+      }
+      return between(random, -factor, factor);
+    }
   }
 
   static int between(Random random, int low, int high) {
@@ -46,7 +54,7 @@ final class Model {
 
   private static void drawColumn(Random random, Draw draw, Model m, int c) {
     m.kind[c] = draw.kinds[random.nextInt(draw.kinds.length)];
-    m.cost[c] = random.nextInt(3) == 0 ? 0 : between(random, -draw.factor, draw.factor);
+    m.cost[c] = random.nextInt(3) == 0 ? 0 : draw.factor(random);
     if (m.kind[c] == 2) {
       m.greatest[c] = 1;
       return;
@@ -63,7 +71,7 @@ final class Model {
     m.counts[r] = random.nextInt(draw.restIn) == 0 ? 0 : 1;
     int near = 0;
     for (int c = 0; c < m.columns; c++) {
-      m.share[r][c] = random.nextInt(4) == 0 ? 0 : between(random, -draw.factor, draw.factor);
+      m.share[r][c] = !draw.extreme && random.nextInt(4) == 0 ? 0 : draw.factor(random);
       near += m.share[r][c] * (m.least[c] + (m.kind[c] == 2 ? random.nextInt(2) : 2));
     }
     boolean isNear = draw.nearby && random.nextInt(6) > 0;

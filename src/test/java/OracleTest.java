@@ -59,7 +59,7 @@ public final class OracleTest {
   }
 
   public static void main(String[] args) {
-    int times = args.length > 0 ? Integer.parseInt(args[0]) : 1;
+    int times = args.length > 0 ? Integer.parseInt(args[0]) : 10;
     Random random = new Random(args.length > 1 ? Long.parseLong(args[1]) : 20261116L);
     Model.Draw small = new Model.Draw();
     small.mostColumns = 3;
@@ -80,6 +80,11 @@ public final class OracleTest {
     apart.wholeSpan = 3;
     Model.Draw many = new Model.Draw();
     many.wholeSpan = 2;
+    Model.Draw far = new Model.Draw();
+    far.kinds = new int[] {0, 0, 0, 1};
+    far.extreme = true;
+    far.nearby = false;
+    far.justIn = 3;
     for (int i = 0; i < 600 * times; i++) {
       tryOut(random, small, true);
       tryOut(random, ties, true);
@@ -89,6 +94,7 @@ public final class OracleTest {
       tryOut(random, plain, i % 6 == 0);
       tryOut(random, apart, i % 6 == 0);
       tryOut(random, many, i % 6 == 0);
+      tryOut(random, far, i % 6 == 0);
     }
     System.out.println("strictly: " + seen[0] + " best, " + seen[1] + " never, " + seen[2] + " endless; loosely: "
         + seen[3] + " best, " + seen[4] + " never, " + seen[5] + " endless; " + quarrels + " quarrels");

@@ -8,6 +8,8 @@ public final class SolvingTest {
     refusals();
     nothingAtAll();
     tiesGoToTheFirstColumns();
+    tiesOfColumnsWithoutEnd();
+    tiesUpToTheLastColumn();
     fractions();
     wholeValues();
     switches();
@@ -104,6 +106,40 @@ public final class SolvingTest {
     is("16: plain ones", x, 2, 7, 2);
   }
 
+  private static void tiesOfColumnsWithoutEnd() {
+    BoundCourt x = new BoundCourt();
+    x.column(0, 0, NONE);
+    x.column(0, 0, NONE);
+    x.column(0, 0, NONE);
+    for (int c = 0; c < 3; c++) {
+      x.cost(c, -1);
+    }
+    row(x, 0, 5, 1, 1, 1);
+    due.is("13: all fall alike", x.solve(1), BEST);
+    costs("15: all fall alike", x, -5, 1);
+    is("16: all fall alike", x, 0, 0, 1);
+    is("16: all fall alike", x, 1, 0, 1);
+    is("16: all fall alike", x, 2, 5, 1);
+    row(x, 0, 2, 0, 0, 1);
+    due.is("13: and one is held", x.solve(0), BEST);
+    is("16: and one is held", x, 1, 3, 1);
+  }
+
+  private static void tiesUpToTheLastColumn() {
+    BoundCourt x = new BoundCourt();
+    x.column(2, 0, 1);
+    x.column(2, 0, 1);
+    x.column(0, 1, 8);
+    x.partner(0, 2);
+    x.partner(1, 0);
+    x.cost(1, 5);
+    row(x, 0, 14, -8, 2, 6);
+    row(x, 1, 6, 0, 9, -1);
+    row(x, 1, 25, 1, 3, 8);
+    due.is("13: the last column decides", x.solve(0), BEST);
+    is("16: the last column decides", x, 2, 21, 8);
+  }
+
   private static void fractions() {
     BoundCourt x = new BoundCourt();
     x.column(0, -20, NONE);
@@ -155,6 +191,11 @@ public final class SolvingTest {
     costs("15: and costs", x, 9, 1);
     due.is("13: loosely there are no partners", x.solve(1), BEST);
     costs("15: loosely", x, 0, 1);
+    x.bound(1, 1, 8);
+    x.cost(1, -1);
+    due.is("13: a partner that would rather be high", x.solve(0), BEST);
+    costs("15: a partner that would rather be high", x, 1, 1);
+    x.cost(1, 0);
     x.bound(1, -4, -2);
     due.is("13: a partner below 0", x.solve(0), BEST);
     is("16: its switch is on", x, 0, 1, 1);
