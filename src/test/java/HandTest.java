@@ -1,4 +1,3 @@
-import java.math.BigInteger;
 import java.util.Random;
 
 /** Promises 18 to 25: the plan and the prices in hand. */
@@ -275,10 +274,6 @@ public final class HandTest {
     due.is("23: far above", x.check(), 1);
   }
 
-  private static BigInteger big(long v) {
-    return BigInteger.valueOf(v);
-  }
-
   /** The hand is looked at once more, with numbers that cannot run over. */
   private static void randomHands(Random random) {
     int[] told = new int[5];
@@ -291,91 +286,31 @@ public final class HandTest {
       BoundCourt x = m.told();
       int below = Model.between(random, 1, 2);
       int pricesBelow = Model.between(random, 1, 2);
-      int[] plan = new int[5];
+      long[] plan = new long[5];
       int[] prices = new int[7];
       x.over(below);
       x.pricesOver(pricesBelow);
       for (int c = 0; c < 5; c++) {
-        plan[c] = (m.least[c] + random.nextInt(3)) * below + (random.nextInt(5) == 0 ? 1 : 0);
-        x.put(c, plan[c]);
+        int v = (m.least[c] + random.nextInt(3)) * below + (random.nextInt(5) == 0 ? 1 : 0);
+        plan[c] = v;
+        x.put(c, v);
       }
       for (int r = 0; r < 7; r++) {
         prices[r] = random.nextInt(3) == 0 ? Model.between(random, -2, 2) : 0;
         x.price(r, prices[r]);
       }
-      due.is("23: check of " + m, x.check(), check(m, plan, below));
-      int shows = shows(m, plan, below, prices, pricesBelow);
+      due.is("23: check of " + m, x.check(), HandOracle.check(m, plan, below));
+      int shows = HandOracle.shows(m, plan, below, prices, pricesBelow);
       told[shows]++;
       due.is("24: shows of " + m, x.shows(), shows);
       for (int r = 0; r < m.rows; r++) {
-        BigInteger sum = sum(m, r, plan);
-        BigInteger common = sum.gcd(big(below));
-        due.is("25: sum of " + m, x.sum(r, 0), sum.divide(common).longValueExact());
-        due.is("25: sum of " + m, x.sum(r, 1), big(below).divide(common).longValueExact());
+        for (int part = 0; part <= 1; part++) {
+          due.is("25: sum of " + m, x.sum(r, part), HandOracle.sum(m, r, plan, below, part));
+        }
       }
     }
     for (int what = 0; what < 5; what++) {
       due.holds("24: " + what + " is met often enough", told[what] > 100);
     }
-  }
-
-  private static BigInteger sum(Model m, int r, int[] plan) {
-    BigInteger sum = BigInteger.ZERO;
-    for (int c = 0; c < m.columns; c++) {
-      sum = sum.add(big(m.share[r][c]).multiply(big(plan[c])));
-    }
-    return sum;
-  }
-
-  private static boolean inBounds(Model m, int c, int[] plan, int below) {
-    return plan[c] >= m.least[c] * below && (m.greatest[c] == NONE || plan[c] <= m.greatest[c] * below);
-  }
-
-  private static boolean keeps(Model m, int r, int[] plan, int below) {
-    int side = sum(m, r, plan).compareTo(big((long) m.number[r] * below));
-    return m.counts[r] == 0 || side == 0 || (side < 0 && m.rowKind[r] == 0) || (side > 0 && m.rowKind[r] == 1);
-  }
-
-  private static int check(Model m, int[] plan, int below) {
-    for (int c = 0; c < m.columns; c++) {
-      boolean isWell = inBounds(m, c, plan, below);
-      isWell &= m.kind[c] == 0 || plan[c] % below == 0;
-      isWell &= m.kind[c] != 2 || plan[c] != 0 || m.partner[c] == NONE || plan[m.partner[c]] == 0;
-      if (!isWell) {
-        return 1 + c;
-      }
-    }
-    for (int r = 0; r < m.rows; r++) {
-      if (!keeps(m, r, plan, below)) {
-        return 100 + r;
-      }
-    }
-    return 0;
-  }
-
-  private static int shows(Model m, int[] plan, int below, int[] prices, int pricesBelow) {
-    boolean[] holds = new boolean[5];
-    for (int c = 0; c < m.columns; c++) {
-      holds[1] |= !inBounds(m, c, plan, below);
-      BigInteger left = big((long) m.cost[c] * pricesBelow);
-      for (int r = 0; r < m.rows; r++) {
-        left = left.subtract(big((long) m.counts[r] * m.share[r][c] * prices[r]));
-      }
-      holds[3] |= left.signum() < 0 && (m.greatest[c] == NONE || plan[c] != m.greatest[c] * below);
-      holds[3] |= left.signum() > 0 && plan[c] != m.least[c] * below;
-    }
-    for (int r = 0; r < m.rows; r++) {
-      holds[1] |= !keeps(m, r, plan, below);
-      if (m.counts[r] == 1) {
-        holds[2] |= (prices[r] > 0 && m.rowKind[r] == 0) || (prices[r] < 0 && m.rowKind[r] == 1);
-        holds[4] |= prices[r] != 0 && !sum(m, r, plan).equals(big((long) m.number[r] * below));
-      }
-    }
-    for (int what = 1; what < 5; what++) {
-      if (holds[what]) {
-        return what;
-      }
-    }
-    return 0;
   }
 }

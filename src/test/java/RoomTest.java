@@ -57,6 +57,7 @@ public final class RoomTest {
     int[] odd = {0, 1, 2, 3, 4, 5, 6, 7, 8, -1, 9, -9, 10, 20, 99, 100, 198, NONE, BoundCourt.BAD, 1000000, 1000000000,
         Integer.MAX_VALUE, Integer.MIN_VALUE, Integer.MAX_VALUE - 2, Integer.MIN_VALUE + 3};
     java.util.Random random = new java.util.Random(3L);
+    Calls calls = new Calls(BoundCourt.class);
     int asked = 0;
     for (int run = 0; run < 1500; run++) {
       BoundCourt x = new BoundCourt();
@@ -64,40 +65,10 @@ public final class RoomTest {
         int a = odd[random.nextInt(random.nextBoolean() ? 8 : odd.length)];
         int b = odd[random.nextInt(random.nextBoolean() ? 8 : odd.length)];
         int c = odd[random.nextInt(random.nextBoolean() ? 8 : odd.length)];
-        call(x, random.nextInt(25), a, b, c);
+        calls.ask(x, random.nextInt(Calls.NAMES.length), a, b, c);
         asked++;
       }
     }
     due.is("calls that ended", asked, 1500 * 512);
-  }
-
-  private static long call(BoundCourt x, int which, int a, int b, int c) {
-    switch (which) {
-      case 0: return x.column(a, b, c);
-      case 1: return x.bound(a, b, c);
-      case 2: return x.partner(a, b);
-      case 3: return x.cost(a, b);
-      case 4: return x.row(a, b);
-      case 5: return x.share(a, b, c);
-      case 6: return x.number(a, b);
-      case 7: return x.counts(a, b);
-      case 8: return x.isOf(a, b);
-      case 9: return x.about(a, b);
-      case 10: return x.told(a, b);
-      case 11: return x.solve(a);
-      case 12: return x.worth(a, b, c);
-      case 13: return x.least(a);
-      case 14: return x.value(a, b);
-      case 15: return x.quarrel();
-      case 16: return x.put(a, b);
-      case 17: return x.over(a);
-      case 18: return x.take();
-      case 19: return x.price(a, b);
-      case 20: return x.pricesOver(a);
-      case 21: return x.check();
-      case 22: return x.shows();
-      case 23: return x.sum(a, b);
-      default: return x.count(a);
-    }
   }
 }
