@@ -4,26 +4,39 @@ import java.nio.file.Path;
 import java.util.Set;
 import java.util.TreeSet;
 import java.util.function.IntToLongFunction;
+import java.util.regex.Matcher;
+import java.util.regex.Pattern;
 
-/** Answers that are due at the edges, each under the words of the document that name the edge. */
+/** Answers that are due, each under the words of the document that ask for it; no words may be left over. */
 final class Edges {
   static final int BAD = Due.BAD, NO = Due.NO, FULL = Due.FULL, NONE = Due.NONE;
   static final int LOWEST = Integer.MIN_VALUE, HIGHEST = Integer.MAX_VALUE;
+  /** In place of a promise: the part "What it is". */
+  static final int THE_WHOLE = 0;
   private static final Path DOCUMENT = Path.of("../shared/DOC.md");
   private static final int PROMISES = 26;
   private static final int[] FAR = {LOWEST, LOWEST + 1, LOWEST + 3, -1000000001, -1, 0, 1, 1000000001, HIGHEST - 3, HIGHEST - 1,
       HIGHEST, BAD, NO, FULL, NONE};
+  // Headings and fences ask for nothing, and FaceTest reads the face.
+  private static final Pattern FRAME = Pattern.compile("## Promise \\d+: [^`]*`[^`]*`: |## What it is|## Terms|```text|={8} \\d ");
 
-  private final Due due = new Due("the edges");
+  private final Due due = new Due("the document's sentences");
   private final boolean[] isNamed = new boolean[PROMISES + 1];
+  private final boolean isThere;
   private final String document;
+  private final boolean[] isQuoted;
   private String sentence = "";
 
   Edges() throws IOException {
-    boolean isThere = Files.isReadable(DOCUMENT);
-    document = isThere ? inOneLine(Files.readString(DOCUMENT)) : null;
+    isThere = Files.isReadable(DOCUMENT);
     if (!isThere) {
-      System.out.println("the edges: there is no " + DOCUMENT + ", so the words are not looked up in it");
+      System.out.println("the sentences: there is no " + DOCUMENT + ", so the words are not looked up in it");
+    }
+    document = isThere ? inOneLine(Files.readString(DOCUMENT)) : "";
+    isQuoted = new boolean[document.length()];
+    Matcher frame = FRAME.matcher(document);
+    while (frame.find()) {
+      quote(frame.start(), frame.end());
     }
   }
 
@@ -31,11 +44,30 @@ final class Edges {
     return text.replaceAll("\\s+", " ");
   }
 
-  /** What follows is due by these words; they must stand in the document. */
+  private void quote(int from, int end) {
+    for (int i = from; i < end; i++) {
+      isQuoted[i] = true;
+    }
+  }
+
+  /** What follows is due by these words; they must stand under the promise, or in the terms. */
   void says(int promise, String words) {
     sentence = promise + " (" + words + ") ";
     isNamed[promise] = true;
-    due.holds("the document says: " + words, document == null || document.contains(inOneLine(words)));
+    String own = promise == THE_WHOLE ? "## What it is" : "## Promise " + promise + ":";
+    boolean isSaid = isQuotedFrom(own, words) || isQuotedFrom("## Terms", words);
+    due.holds("the document says for promise " + promise + ": " + words, isSaid || !isThere);
+  }
+
+  private boolean isQuotedFrom(String heading, String words) {
+    int start = document.indexOf(heading);
+    int next = document.indexOf("## ", start + 2);
+    int at = document.indexOf(words, start);
+    if (start < 0 || at < 0 || at + words.length() > next) {
+      return false;
+    }
+    quote(at, at + words.length());
+    return true;
   }
 
   void is(String call, long got, long want) {
@@ -78,8 +110,27 @@ final class Edges {
 
   void close() {
     for (int promise = 1; promise <= PROMISES; promise++) {
-      due.holds("promise " + promise + " has an edge of its own", isNamed[promise]);
+      due.holds("promise " + promise + " has a test of its own", isNamed[promise]);
+    }
+    if (isThere) {
+      noneLeftOver("## What it is", "## The public face");
+      noneLeftOver("## Terms", "## Not promised");
     }
     due.close();
+  }
+
+  /** Words that no test quotes have no test. */
+  private void noneLeftOver(String heading, String end) {
+    StringBuilder left = new StringBuilder();
+    int from = document.indexOf(heading);
+    int to = document.indexOf(end);
+    due.holds("the document has the part " + heading, from >= 0 && to > from);
+    for (int i = Math.max(from, 0); i < to; i++) {
+      left.append(isQuoted[i] ? '/' : document.charAt(i));
+    }
+    for (String words : left.toString().split("/+")) {
+      boolean isLink = words.matches("[^A-Za-z0-9]*((and|or) )?");
+      due.holds("a test quotes: " + words, isLink);
+    }
   }
 }

@@ -1,9 +1,14 @@
+import java.io.IOException;
 import java.lang.reflect.Constructor;
 import java.lang.reflect.Field;
 import java.lang.reflect.Method;
 import java.lang.reflect.Modifier;
+import java.nio.file.Files;
+import java.nio.file.Path;
 import java.util.Set;
 import java.util.TreeSet;
+import java.util.regex.Matcher;
+import java.util.regex.Pattern;
 
 /** The public face, and no more of it. */
 public final class FaceTest {
@@ -14,7 +19,7 @@ public final class FaceTest {
       "long least(int)", "long value(int, int)", "int quarrel()", "int put(int, int)", "int over(int)", "long take()",
       "int price(int, int)", "int pricesOver(int)", "int check()", "int shows()", "long sum(int, int)", "int count(int)"};
 
-  public static void main(String[] args) {
+  public static void main(String[] args) throws IOException {
     due.is("BAD", BoundCourt.BAD, -2000000001L);
     due.is("NO", BoundCourt.NO, -2000000002L);
     due.is("FULL", BoundCourt.FULL, -2000000003L);
@@ -32,7 +37,30 @@ public final class FaceTest {
     }
     due.holds("the class has " + want, want.isEmpty());
     members(names);
+    readInTheDocument();
     due.close();
+  }
+
+  /** The list above is that of the document, and nothing is left out of it. */
+  private static void readInTheDocument() throws IOException {
+    Path document = Path.of("../shared/DOC.md");
+    if (!Files.isReadable(document)) {
+      return;
+    }
+    String text = Files.readString(document);
+    String face = text.substring(text.indexOf("```java"), text.indexOf("## Terms"));
+    Set<String> told = new TreeSet<>();
+    Matcher head = Pattern.compile("public (int|long) (\\w+\\([^)]*\\));").matcher(face);
+    while (head.find()) {
+      told.add(head.group(1) + " " + head.group(2).replaceAll("int \\w+", "int"));
+    }
+    due.holds("the document's methods are these: " + told, told.equals(new TreeSet<>(Set.of(METHODS))));
+    due.is("statements in the document's face", face.chars().filter(ch -> ch == ';').count(), METHODS.length + 2);
+    String constants = "int BAD = " + BoundCourt.BAD + ", NO = " + BoundCourt.NO + ", FULL = " + BoundCourt.FULL + ", NONE = "
+        + BoundCourt.NONE + ";";
+    due.holds("the document's constants are these: " + constants, face.contains("public static final " + constants));
+    due.holds("the document's constructor", face.contains("public BoundCourt();"));
+    due.holds("the document's class", face.contains("public final class BoundCourt {"));
   }
 
   private static String told(Method method) {

@@ -14,6 +14,7 @@ final class HandEdges {
     numbersOfThePlan();
     numbersPut();
     overWhat();
+    taken();
     takenOverTheLeast();
     takenForColumnsBehind();
     takenOfNoBest();
@@ -27,6 +28,7 @@ final class HandEdges {
     columnsBeforeRows();
     sumsOfRows();
     rowsThatRest();
+    showsTheBest();
     notLooselyRight();
     priceOfTheWrongSide();
     leftOfAColumn();
@@ -65,7 +67,7 @@ final class HandEdges {
   }
 
   private void numbersPut() {
-    edges.says(18, "a number for each COLUMN 0 .. 4");
+    edges.says(18, "IN HAND are a PLAN, a number for each COLUMN 0 .. 4");
     BoundCourt x = ProgramEdges.court(0, 5);
     for (int c = 0; c < 5; c++) {
       edges.is("put(" + c + ", ..)", x.put(c, c - 2), 0);
@@ -104,8 +106,33 @@ final class HandEdges {
 
   // ---- 20 take
 
+  private void taken() {
+    edges.says(20, "The PLAN becomes THE BEST one that is kept,");
+    BoundCourt x = ProgramEdges.court(5, 5);
+    for (int c = 0; c < 5; c++) {
+      x.share(c, c, 1);
+      x.number(c, c + 1);
+      x.cost(c, c % 2 == 0 ? -1 : 1);
+      x.put(c, 100 + c);
+    }
+    x.over(9);
+    x.solve(0);
+    // Afterwards the program is another one; what is kept is not.
+    for (int c = 0; c < 5; c++) {
+      x.number(c, 0);
+    }
+    edges.is("take()", x.take(), 1);
+    for (int c = 0; c < 5; c++) {
+      edges.is("column " + c, x.sum(c, 0), x.sum(c, 1), c % 2 == 0 ? c + 1 : 0, 1);
+      edges.is("it is still kept, value(" + c + ", 0)", x.value(c, 0), c % 2 == 0 ? c + 1 : 0);
+    }
+    edges.is("other numbers can be put", x.put(0, 3), 0);
+    edges.is("they are", x.sum(0, 0), 3);
+    edges.is("that leaves what is kept", x.value(0, 0), 1);
+  }
+
   private void takenOverTheLeast() {
-    edges.says(20, "over the least number that does for all its values");
+    edges.says(20, "over the least number that does for all its values (0 for COLUMNS that it has not): that.");
     int[][] shares = {{1, 1, 1}, {2, 1, 2}, {2, 3, 6}, {4, 6, 12}, {8, 9, 72}, {9, 3, 9}, {7, 5, 35}, {2, -3, 6}};
     for (int[] s : shares) {
       BoundCourt x = court(PLAIN, -20, 20);
@@ -375,6 +402,36 @@ final class HandEdges {
 
   // ---- 24 shows
 
+  private void showsTheBest() {
+    edges.says(24, "Whether PRICES SHOW the PLAN: 0; else the number by which it is told.");
+    BoundCourt x = court(PLAIN, 0, NONE);
+    x.column(PLAIN, 0, NONE);
+    x.cost(0, -3);
+    x.cost(1, -5);
+    int[][] rows = {{1, 0, 4}, {0, 2, 12}, {3, 2, 18}};
+    for (int[] row : rows) {
+      int r = x.row(AT_MOST, row[2]);
+      x.share(r, 0, row[0]);
+      x.share(r, 1, row[1]);
+    }
+    x.solve(1);
+    x.take();
+    edges.is("no prices yet", x.shows(), 3);
+    x.pricesOver(2);
+    x.price(1, -3);
+    x.price(2, -2);
+    edges.is("prices 0, -3 / 2, -1 for the plan 2, 6", x.shows(), 0);
+    long worthIt = -3 * 12 - 2 * 18;
+    edges.is("numbers times prices are what it costs", worthIt * x.least(1), 2 * x.least(0));
+    x.put(0, 1);
+    edges.is("a plan that costs more", x.shows(), 4);
+    x.put(0, 3);
+    edges.is("one that is not right", x.shows(), 1);
+    x.take();
+    x.price(2, 2);
+    edges.is("a price of the wrong side", x.shows(), 2);
+  }
+
   private void notLooselyRight() {
     edges.says(24, "1 the PLAN is not LOOSELY RIGHT.");
     edges.is("no column and no row", new BoundCourt().shows(), 0);
@@ -450,7 +507,7 @@ final class HandEdges {
   }
 
   private void leftAtOneBound() {
-    edges.says(24, "WHAT IS LEFT of a COLUMN (its COST less the SHARES of it times the PRICES of the ROWS that COUNT, together)");
+    edges.says(24, "3 WHAT IS LEFT of a COLUMN (its COST less the SHARES of it times the PRICES of the ROWS that COUNT, together)");
     BoundCourt x = court(PLAIN, 2, 2);
     x.put(0, 2);
     for (int cost = -9; cost <= 9; cost += 9) {
@@ -589,7 +646,7 @@ final class HandEdges {
   }
 
   private void sumsThatAreLarge() {
-    edges.says(25, "the values times their SHARES, together");
+    edges.says(25, "ITS SUM in a ROW: the values times their SHARES, together");
     for (int sign = -1; sign <= 1; sign += 2) {
       BoundCourt x = ProgramEdges.court(5, 7);
       for (int c = 0; c < 5; c++) {

@@ -41,7 +41,9 @@ final class ProgramEdges {
     numbers();
     countsOrRests();
     kindsOfKinds();
+    isOrIsNot();
     aboutWhat();
+    toldOfARow();
     toldWhat();
     countWhat();
     callsCounted();
@@ -119,7 +121,7 @@ final class ProgramEdges {
   // ---- 2 column
 
   private void fiveColumns() {
-    edges.says(2, "COLUMNS, 5 at most");
+    edges.says(2, "THE PROGRAM has COLUMNS, 5 at most");
     for (int kind = 0; kind < 3; kind++) {
       BoundCourt x = court(4, 0);
       edges.is("the fifth, of kind " + kind, x.column(kind, 1, 2), 4);
@@ -133,7 +135,7 @@ final class ProgramEdges {
   }
 
   private void columnsAreNumbered() {
-    edges.says(2, "numbered from 0 as they come");
+    edges.says(2, "One more COLUMN: its number.");
     BoundCourt x = new BoundCourt();
     for (int c = 0; c < 5; c++) {
       edges.is("a refused one takes no number", x.column(PLAIN, 1, 0), BAD);
@@ -355,7 +357,7 @@ final class ProgramEdges {
   }
 
   private void costWas() {
-    edges.says(5, "The COST of a COLUMN is v: what it was.");
+    edges.says(5, "The COST of a COLUMN is v: what it was. BAD.");
     BoundCourt x = kinds();
     int was = 0;
     for (int v : new int[] {9, -9, -9, 0, 1}) {
@@ -372,7 +374,7 @@ final class ProgramEdges {
   // ---- 6 row
 
   private void sevenRows() {
-    edges.says(6, "ROWS, 7 at most");
+    edges.says(6, "One more ROW: its number.");
     for (int kind = 0; kind < 3; kind++) {
       BoundCourt x = court(0, 6);
       edges.is("the seventh, of kind " + kind, x.row(kind, 7), 6);
@@ -471,7 +473,7 @@ final class ProgramEdges {
   }
 
   private void shareWas() {
-    edges.says(7, "The SHARE of a COLUMN in a ROW is v: what it was.");
+    edges.says(7, "The SHARE of a COLUMN in a ROW is v: what it was. BAD.");
     BoundCourt x = court(5, 7);
     for (int r = 0; r < 7; r++) {
       for (int c = 0; c < 5; c++) {
@@ -488,7 +490,7 @@ final class ProgramEdges {
   }
 
   private void numbers() {
-    edges.says(8, "The NUMBER of a ROW is v: what it was.");
+    edges.says(8, "The NUMBER of a ROW is v: what it was. BAD.");
     edges.takesJust(-99, 99, "number(6, v)", v -> court(0, 7).number(6, v));
     for (int n = 0; n <= 7; n++) {
       int rows = n;
@@ -508,7 +510,7 @@ final class ProgramEdges {
   }
 
   private void countsOrRests() {
-    edges.says(9, "A ROW COUNTS (1) or RESTS (0): what it did.");
+    edges.says(9, "A ROW COUNTS (1) or RESTS (0): what it did. BAD.");
     edges.takesJust(0, 1, "counts(0, v)", v -> court(0, 1).counts(0, v));
     for (int n = 0; n <= 7; n++) {
       int rows = n;
@@ -543,8 +545,30 @@ final class ProgramEdges {
     }
   }
 
+  private void isOrIsNot() {
+    edges.says(10, "Whether a COLUMN is of a KIND: 1, 0. BAD.");
+    BoundCourt x = new BoundCourt();
+    int[] kinds = {SWITCH, PLAIN, WHOLE, PLAIN, SWITCH};
+    for (int c = 0; c < 5; c++) {
+      edges.is("not there yet, isOf(" + c + ", 0)", x.isOf(c, PLAIN), BAD);
+      x.column(kinds[c], 3, 4);
+    }
+    for (int c = 0; c < 5; c++) {
+      edges.is("isOf(" + c + ", 0)", x.isOf(c, PLAIN), 1);
+      edges.is("isOf(" + c + ", 1)", x.isOf(c, WHOLE), kinds[c] == PLAIN ? 0 : 1);
+      edges.is("isOf(" + c + ", 2)", x.isOf(c, SWITCH), kinds[c] == SWITCH ? 1 : 0);
+      edges.is("isOf(" + c + ", 3)", x.isOf(c, 3), BAD);
+      edges.is("isOf(" + c + ", -1)", x.isOf(c, -1), BAD);
+    }
+    edges.is("isOf(5, 0)", x.isOf(5, PLAIN), BAD);
+    edges.is("isOf(-1, 0)", x.isOf(-1, PLAIN), BAD);
+    x.bound(1, 5, 5);
+    x.partner(0, 1);
+    edges.is("one value alone makes it no whole one", x.isOf(1, WHOLE), 0);
+  }
+
   private void aboutWhat() {
-    edges.says(11, "what 0 its LEAST, 1 its GREATEST (NONE), 2 its COST, 3 its PARTNER (NONE). BAD.");
+    edges.says(11, "Of a COLUMN: what 0 its LEAST, 1 its GREATEST (NONE), 2 its COST, 3 its PARTNER (NONE). BAD.");
     for (int c = 0; c < 3; c++) {
       int column = c;
       edges.takesJust(0, 3, "about(" + c + ", v)", v -> kinds().about(column, v));
@@ -553,9 +577,36 @@ final class ProgramEdges {
       int columns = n;
       edges.takesJust(0, n - 1, n + " columns, about(v, 3)", v -> court(columns, 0).about(v, 3));
     }
+    BoundCourt x = kinds();
+    x.cost(1, -4);
+    x.partner(2, 1);
+    int[][] want = {{-3, NONE, 0, NONE}, {-2, 7, -4, NONE}, {0, 1, 0, 1}};
+    for (int c = 0; c < 3; c++) {
+      for (int what = 0; what <= 3; what++) {
+        edges.is("about(" + c + ", " + what + ")", x.about(c, what), want[c][what]);
+      }
+    }
     edges.is("no greatest", kinds().about(0, 1), NONE);
     edges.is("no partner", kinds().about(2, 3), NONE);
     edges.is("no partner of no switch", kinds().about(0, 3), NONE);
+  }
+
+  private void toldOfARow() {
+    edges.says(12, "Of a ROW: what 0 its KIND, 1 its NUMBER, 2 whether it COUNTS (1, 0),");
+    BoundCourt x = new BoundCourt();
+    for (int r = 0; r < 7; r++) {
+      x.row(r % 3, 30 * r - 90);
+      x.counts(r, r / 2 % 2);
+    }
+    for (int round = 0; round < 2; round++) {
+      for (int r = 0; r < 7; r++) {
+        edges.is("told(" + r + ", 0)", x.told(r, 0), r % 3);
+        edges.is("told(" + r + ", 1)", x.told(r, 1), 30 * r - 90 + round);
+        edges.is("told(" + r + ", 2)", x.told(r, 2), (r / 2 + round) % 2);
+        x.number(r, 30 * r - 89);
+        x.counts(r, 1 - r / 2 % 2);
+      }
+    }
   }
 
   private void toldWhat() {
@@ -601,7 +652,7 @@ final class ProgramEdges {
   }
 
   private void callsCounted() {
-    edges.says(26, "5 calls of solve() and worth() that were not refused");
+    edges.says(26, "5 calls of solve() and worth() that were not refused. BAD.");
     BoundCourt x = court(1, 1);
     x.solve(2);
     x.solve(-1);
@@ -611,6 +662,8 @@ final class ProgramEdges {
     x.quarrel();
     x.take();
     edges.is("none of these", x.count(5), 0);
+    edges.is("count(6)", x.count(6), BAD);
+    edges.is("count(-1)", x.count(-1), BAD);
     x.solve(0);
     x.solve(1);
     x.worth(0, 99, 0);

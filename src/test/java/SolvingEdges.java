@@ -30,6 +30,7 @@ final class SolvingEdges {
     worthOfARowThatRests();
     leastParts();
     leastOfNoBest();
+    valuesOfTheBest();
     valueParts();
     columnsBehind();
     fractions();
@@ -100,7 +101,7 @@ final class SolvingEdges {
   }
 
   private void neverAtTheBounds() {
-    edges.says(13, "each value is not below the LEAST of its COLUMN and not above its GREATEST, if there is one");
+    edges.says(13, "It is LOOSELY RIGHT if each value is not below the LEAST of its COLUMN and not above its GREATEST, if there is one");
     for (int kind : new int[] {PLAIN, WHOLE}) {
       for (int loosely = 0; loosely <= 1; loosely++) {
         BoundCourt x = court(kind, -4, 5, 0);
@@ -345,7 +346,7 @@ final class SolvingEdges {
   }
 
   private void kept() {
-    edges.says(13, "This is kept till the next solve() or worth() that is not refused.");
+    edges.says(13, "This is kept till the next solve() or worth() that is not refused. BAD.");
     BoundCourt x = court(PLAIN, 2, 8, 3);
     addRow(x, AT_LEAST, 5, 1);
     x.solve(0);
@@ -382,7 +383,7 @@ final class SolvingEdges {
   // ---- 14 worth
 
   private void numberMore() {
-    edges.says(14, "the NUMBER of a ROW being d more (-99 .. 99");
+    edges.says(14, "Likewise, the NUMBER of a ROW being d more (-99 .. 99");
     edges.takesJust(-99, 99, "worth(0, v, 0)", v -> ProgramEdges.court(1, 1).worth(0, v, 0));
     edges.takesJust(-99, 99, "worth(6, v, 1)", v -> ProgramEdges.court(5, 7).worth(6, v, 1));
     edges.takesJust(0, 1, "worth(0, 0, v)", v -> ProgramEdges.court(1, 1).worth(0, 0, v));
@@ -432,7 +433,7 @@ final class SolvingEdges {
   }
 
   private void worthOfARowThatRests() {
-    edges.says(14, "whether it COUNTS or RESTS");
+    edges.says(14, "whether it COUNTS or RESTS. BAD.");
     BoundCourt x = court(PLAIN, -20, 20, 1);
     addRow(x, AT_LEAST, 3, 1);
     addRow(x, AT_LEAST, -7, 1);
@@ -443,6 +444,15 @@ final class SolvingEdges {
     edges.is("the other one, likewise", x.worth(1, 1, 1), BEST);
     edges.is("least", x.least(0), x.least(1), -6, 1);
     edges.is("they are counted", x.count(5), 2);
+    for (int d = -99; d <= 99; d += 11) {
+      for (int loosely = 0; loosely <= 1; loosely++) {
+        edges.is("its number has no say, worth(0, " + d + ", " + loosely + ")", x.worth(0, d, loosely), BEST);
+        edges.is("least", x.least(0), x.least(1), -7, 1);
+      }
+    }
+    edges.is("refused all the same, d", x.worth(0, 100, 1), BAD);
+    edges.is("refused all the same, loosely", x.worth(0, 1, 2), BAD);
+    edges.is("no such row", x.worth(2, 1, 1), BAD);
   }
 
   // ---- 15 least, 16 value
@@ -507,6 +517,27 @@ final class SolvingEdges {
     edges.is("endless", endlesslySolved().value(0, 1), NO);
   }
 
+  private void valuesOfTheBest() {
+    edges.says(16, "The value of a COLUMN in THE BEST plan that is kept");
+    int[] want = {20, -3, 0, 1, 7};
+    BoundCourt x = new BoundCourt();
+    addColumn(x, PLAIN, -20, 20, -1);
+    addColumn(x, WHOLE, -3, 6, 1);
+    addColumn(x, PLAIN, -5, 5, 0);
+    addColumn(x, SWITCH, 0, 0, -2);
+    addColumn(x, PLAIN, 6, NONE, 3);
+    addRow(x, JUST, 0, 0, 0, 1);
+    addRow(x, AT_LEAST, 7, 0, 0, 0, 0, 1);
+    isBest("a value of its own for each", x, x.solve(0), 20, -3, 0, 1, 7);
+    x.put(0, 4);
+    x.bound(0, -20, 2);
+    x.bound(4, 8, NONE);
+    for (int c = 0; c < 5; c++) {
+      edges.is("kept, though bounds and the plan in hand are others, value(" + c + ", ..)", x.value(c, 0), x.value(c, 1), want[c], 1);
+    }
+    isBest("the next one", x, x.solve(1), 2, -3, 0, 1, 8);
+  }
+
   private void columnsBehind() {
     edges.says(16, "(COLUMNS that came behind it: 0)");
     BoundCourt x = new BoundCourt();
@@ -532,7 +563,7 @@ final class SolvingEdges {
   }
 
   private void fractions() {
-    edges.says(16, "above the line and below it, below it above 0, in lowest terms (0 is 0 / 1)");
+    edges.says(16, "All numbers are whole but where they are told as FRACTIONS: above the line and below it, below it above 0, in lowest terms (0 is 0 / 1)");
     for (int number = -90; number <= 90; number += 5) {
       for (int share : new int[] {-9, -6, -1, 1, 4, 8}) {
         BoundCourt x = court(PLAIN, -20, NONE, 3);
@@ -599,7 +630,7 @@ final class SolvingEdges {
   }
 
   private void quarrelOfFewest() {
-    edges.says(17, "the set of ROWS that COUNT and QUARREL which has the fewest ROWS");
+    edges.says(17, "THE QUARREL is the set of ROWS that COUNT and QUARREL which has the fewest ROWS");
     BoundCourt x = new BoundCourt();
     x.column(PLAIN, -20, NONE);
     x.column(PLAIN, -20, NONE);
@@ -617,7 +648,7 @@ final class SolvingEdges {
   }
 
   private void quarrelOfLeastBits() {
-    edges.says(17, "of several that whose bits are the least number");
+    edges.says(17, "of several that whose bits are the least number (ROW r is 1 &lt;&lt; r)");
     BoundCourt x = court(PLAIN, 0, 10, 0);
     for (int r = 0; r < 7; r++) {
       addRow(x, AT_MOST, -1, 1);
